@@ -1,0 +1,57 @@
+/** Counts the answers that are not as due; end() ends the program with exit code 1 if there was one. */
+final class Check {
+    private int wrong = 0;
+    private String about = "";
+
+    void about(String what) {
+        about = what;
+    }
+
+    void due(String call, long got, long want) {
+        if (got != want) {
+            fail(call + " answered " + got + ", due is " + want);
+        }
+    }
+
+    void due(String call, boolean got, boolean want) {
+        if (got != want) {
+            fail(call + " answered " + got + ", due is " + want);
+        }
+    }
+
+    void dueAll(String call, int[] got, int... want) {
+        if (!java.util.Arrays.equals(got, want)) {
+            fail(call + " answered " + java.util.Arrays.toString(got) + ", due is " + java.util.Arrays.toString(want));
+        }
+    }
+
+    void dueThrow(String call, Class<? extends RuntimeException> want, Runnable run) {
+        try {
+            run.run();
+        } catch (RuntimeException e) {
+            if (e.getClass() != want) {
+                fail(call + " threw " + e.getClass().getSimpleName() + ", due is " + want.getSimpleName());
+            }
+            return;
+        }
+        fail(call + " threw nothing, due is " + want.getSimpleName());
+    }
+
+    void fail(String text) {
+        wrong++;
+        if (wrong <= 40) {
+            System.out.println(about + ": " + text);
+        }
+    }
+
+    int wrong() {
+        return wrong;
+    }
+
+    void end() {
+        System.out.println(wrong == 0 ? "all answers are as due" : wrong + " answers are not as due");
+        if (wrong != 0) {
+            System.exit(1);
+        }
+    }
+}

@@ -1,0 +1,131 @@
+import java.lang.reflect.Constructor;
+import java.lang.reflect.Executable;
+import java.lang.reflect.Field;
+import java.lang.reflect.Method;
+import java.lang.reflect.Modifier;
+import java.util.Arrays;
+import java.util.NoSuchElementException;
+import java.util.TreeSet;
+
+/** The class's face is the document's and no more, and no argument brings another exception than it names. */
+public final class FaceTest {
+    private static final String[] FACE = {
+        "deliver(int)boolean", "echo(int,int)boolean throws IllegalArgumentException",
+        "flood(int)int throws IllegalArgumentException",
+        "issue(int,int,int)int throws IllegalArgumentException,IllegalStateException",
+        "lie(int,int)boolean throws IllegalArgumentException", "lose(int)boolean",
+        "message(int,int)int throws NoSuchElementException", "messages()int",
+        "patience(int)boolean throws IllegalArgumentException",
+        "replica(int,int)int throws IllegalArgumentException",
+        "request(int,int)int throws NoSuchElementException", "retry(int)int throws NoSuchElementException", "view()int"};
+    private static final int[] ODD = {Integer.MIN_VALUE, -601, -2, -1, 0, 1, 2, 3, 4, 5, 6, 7, 9, 10, 11, 12, 13, 21,
+        22, 29, 30, 33, 34, 64, 599, 600, 601, Integer.MAX_VALUE};
+    private static final Check CHECK = new Check();
+
+    public static void main(String[] args) {
+        CHECK.about("the face");
+        face();
+        CHECK.about("odd arguments");
+        for (int faulty = -1; faulty < 4; faulty++) {
+            oddArguments(fresh(faulty, 0), 0);
+            oddArguments(fresh(faulty, 2), 2);
+            oddArguments(fresh(faulty, 12), 12);
+        }
+        CHECK.end();
+    }
+
+    private static void face() {
+        TreeSet<String> methods = new TreeSet<>();
+        TreeSet<String> names = new TreeSet<>();
+        for (Method m : SpecOrder.class.getDeclaredMethods()) {
+            if (!Modifier.isPrivate(m.getModifiers())) {
+                methods.add(m.getName() + types(m) + m.getReturnType().getSimpleName() + thrown(m));
+                names.add(m.getName());
+                CHECK.due(m.getName() + " is public, not static", m.getModifiers(), Modifier.PUBLIC);
+            }
+        }
+        if (!methods.equals(new TreeSet<>(Arrays.asList(FACE)))) {
+            CHECK.fail("the methods are " + methods);
+        }
+        for (Method m : SpecOrder.class.getDeclaredMethods()) {
+            if (Modifier.isPrivate(m.getModifiers()) && names.contains(m.getName())) {
+                CHECK.fail("a private method bears the name " + m.getName());
+            }
+        }
+        for (Field f : SpecOrder.class.getDeclaredFields()) {
+            boolean none = f.getName().equals("NONE");
+            int want = none ? Modifier.PUBLIC | Modifier.STATIC | Modifier.FINAL : Modifier.PRIVATE;
+            CHECK.due("modifiers of " + f.getName(), f.getModifiers() & (none ? -1 : Modifier.PRIVATE), want);
+        }
+        Constructor<?>[] constructors = SpecOrder.class.getDeclaredConstructors();
+        CHECK.due("constructors", constructors.length, 1);
+        CHECK.due("it is public", constructors[0].getModifiers(), Modifier.PUBLIC);
+        CHECK.due("the class is public and final", SpecOrder.class.getModifiers(), Modifier.PUBLIC | Modifier.FINAL);
+    }
+
+    private static String types(Executable e) {
+        StringBuilder text = new StringBuilder("(");
+        for (Class<?> c : e.getParameterTypes()) {
+            text.append(text.length() > 1 ? "," : "").append(c.getSimpleName());
+        }
+        return text.append(")").toString();
+    }
+
+    private static String thrown(Executable e) {
+        StringBuilder text = new StringBuilder();
+        for (Class<?> c : e.getExceptionTypes()) {
+            text.append(text.length() > 0 ? "," : " throws ").append(c.getSimpleName());
+        }
+        return text.toString();
+    }
+
+    /** An object in the midst of its work, with messages of all kinds under way. */
+    private static SpecOrder fresh(int faulty, int requests) {
+        SpecOrder x = new SpecOrder(faulty);
+        for (int i = 0; i < requests; i++) {
+            x.issue(i % 3, i % 4, i);
+            x.deliver(x.messages() - 1);
+        }
+        for (int i = 0; i < requests; i++) {
+            x.flood(5 * i);
+            x.retry(i);
+        }
+        return x;
+    }
+
+    private static void oddArguments(SpecOrder x, int requests) {
+        for (int a : ODD) {
+            boolean replica = a >= 0 && a <= 3;
+            boolean request = a >= 0 && a < requests;
+            same("patience " + a, replica ? null : IllegalArgumentException.class, () -> x.patience(a));
+            same("retry " + a, request ? null : NoSuchElementException.class, () -> x.retry(a));
+            same("deliver " + a, null, () -> x.deliver(a));
+            same("lose " + a, null, () -> x.lose(a));
+            for (int b : ODD) {
+                boolean ofReplica = b >= 0 && b <= 6 || b >= 10 && b <= 21 || b >= 30 && b <= 33;
+                boolean message = a >= 0 && a < x.messages();
+                same("replica", replica && ofReplica ? null : IllegalArgumentException.class, () -> x.replica(a, b));
+                same("message", message && b >= 0 && b <= 6 ? null : NoSuchElementException.class,
+                        () -> x.message(a, b));
+                same("request", request && b >= 0 && b <= 4 ? null : NoSuchElementException.class,
+                        () -> x.request(a, b));
+            }
+        }
+        for (int a : ODD) {
+            same("flood " + a, a >= 0 ? null : IllegalArgumentException.class, () -> x.flood(a));
+        }
+        CHECK.due("all is delivered or lost", x.flood(0), 0);
+    }
+
+    private static void same(String call, Class<? extends RuntimeException> want, Runnable run) {
+        if (want != null) {
+            CHECK.dueThrow(call, want, run);
+            return;
+        }
+        try {
+            run.run();
+        } catch (RuntimeException e) {
+            CHECK.fail(call + " threw " + e);
+        }
+    }
+}
