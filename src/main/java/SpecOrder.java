@@ -26,6 +26,10 @@ public final class SpecOrder {
     private static final int CHANGE = 6;
     private static final int NEW = 7;
 
+    /** Where replica() begins to tell the row, and the four numbers. */
+    private static final int FIRST_PLACE = 10;
+    private static final int FIRST_NUMBER = 30;
+
     private static final int UNDER_WAY = 0;
     private static final int DELIVERED = 1;
     private static final int LOST = 2;
@@ -132,16 +136,16 @@ public final class SpecOrder {
 
     public int replica(int replica, int what) throws IllegalArgumentException {
         boolean state = what >= 0 && what <= 6;
-        boolean place = what >= 10 && what < 10 + MOST_REQUESTS;
-        boolean number = what >= 30 && what < 30 + KEYS;
+        boolean place = what >= FIRST_PLACE && what < FIRST_PLACE + MOST_REQUESTS;
+        boolean number = what >= FIRST_NUMBER && what < FIRST_NUMBER + KEYS;
         if (!isReplica(replica) || !(state || place || number)) {
             throw new IllegalArgumentException("no such replica or what");
         }
         Replica found = replicas[replica];
         if (number) {
-            return found.numbers[what - 30];
+            return found.numbers[what - FIRST_NUMBER];
         }
-        return place ? found.history.at(what - 10) : found.tell(what);
+        return place ? found.history.at(what - FIRST_PLACE) : found.tell(what);
     }
 
     public int messages() {
@@ -188,6 +192,10 @@ public final class SpecOrder {
 
     private static int primaryOf(int view) {
         return view % REPLICAS;
+    }
+
+    private static Letter askFor(int request) {
+        return new Letter(ASK, 0, request, 0, 0, 0, null);
     }
 
     /** What a message says; never changed, so that all receivers, and who keeps it, share it. */
@@ -281,11 +289,6 @@ public final class SpecOrder {
                 row[length] = request;
                 length++;
             }
-        }
-
-        void clear() {
-            length = 0;
-            fixed = 0;
         }
 
         int at(int index) {
@@ -461,28 +464,21 @@ public final class SpecOrder {
         }
 
         void take(int from, Letter letter) {
+            if (!isReplica(from)) {
+                return;
+            }
             if (letter.kind == REPLY) {
-                takeReply(from, letter);
+                view = Math.max(view, letter.view);
+                Request request = find(letter.request);
+                if (request != null) {
+                    request.keep(from, letter);
+                    lookAt(request);
+                }
             } else if (letter.kind == ACK) {
-                takeAck(from, letter);
-            }
-        }
-
-        private void takeReply(int from, Letter reply) {
-            view = Math.max(view, reply.view);
-            Request request = find(reply.request);
-            if (request != null && isReplica(from)) {
-                request.keep(from, reply);
-                lookAt(request);
-            }
-        }
-
-        private void takeAck(int from, Letter ack) {
-            if (isReplica(from)) {
-                acks[from] = ack;
-            }
-            for (int i = 0; i < count; i++) {
-                lookAt(requests[i]);
+                acks[from] = letter;
+                for (int i = 0; i < count; i++) {
+                    lookAt(requests[i]);
+                }
             }
         }
 
@@ -507,10 +503,6 @@ public final class SpecOrder {
             }
             return count;
         }
-    }
-
-    private static Letter askFor(int request) {
-        return new Letter(ASK, 0, request, 0, 0, 0, null);
     }
 
     private static final class Replica {
@@ -565,17 +557,23 @@ public final class SpecOrder {
                     break;
                 case HATE:
                     takeHate(from, letter.view);
-                    makeNewIfReady();
                     break;
                 case CHANGE:
                     keepChange(from, letter);
-                    makeNewIfReady();
                     break;
                 case NEW:
-                    takeNew(from, letter);
+                    if (letter.history != null && mayTurn(from, letter.view)) {
+                        turnTo(letter.view, letter.history);
+                    }
                     break;
                 default:
                     break;
+            }
+            // a HATE may have brought its own CHANGE as the last that was missing
+            if (changing && primaryOf(view) == id && countChanges() >= ENOUGH) {
+                History start = mergeChanges();
+                post.sendToAll(id, new Letter(NEW, view, NONE, start.length, 0, 0, start));
+                turnTo(view, start);
             }
         }
 
@@ -583,9 +581,9 @@ public final class SpecOrder {
             if (!changing && wanted == 0) {
                 return false;
             }
-            post.sendToAll(id, new Letter(HATE, view, NONE, 0, 0, 0, null));
-            takeHate(id, view);
-            makeNewIfReady();
+            Letter hate = new Letter(HATE, view, NONE, 0, 0, 0, null);
+            post.sendToAll(id, hate);
+            take(id, hate);
             return true;
         }
 
@@ -598,11 +596,11 @@ public final class SpecOrder {
             if (place > 0) {
                 reply(place);
                 if (primary == id) {
-                    sendOrder(place);
+                    post.sendToAll(id, orderOf(place));
                 }
             } else if (primary == id) {
                 doNext(request);
-                sendOrder(history.length);
+                post.sendToAll(id, orderOf(history.length));
                 reply(history.length);
             } else {
                 wanted |= 1 << request;
@@ -661,20 +659,8 @@ public final class SpecOrder {
             }
         }
 
-        private void takeNew(int from, Letter fresh) {
-            boolean later = fresh.view > view || fresh.view == view && changing;
-            if (later && from == primaryOf(fresh.view) && fresh.history != null) {
-                turnTo(fresh.view, fresh.history);
-            }
-        }
-
-        private void makeNewIfReady() {
-            if (!changing || primaryOf(view) != id || countChanges() < ENOUGH) {
-                return;
-            }
-            History start = mergeChanges();
-            post.sendToAll(id, new Letter(NEW, view, NONE, start.length, 0, 0, start));
-            turnTo(view, start);
+        private boolean mayTurn(int from, int newView) {
+            return from == primaryOf(newView) && (newView > view || newView == view && changing);
         }
 
         private int countChanges() {
@@ -744,14 +730,14 @@ public final class SpecOrder {
             view = newView;
             changing = false;
             hated = 0;
-            history.clear();
+            history.length = 0;
+            history.fixed = start.fixed;
             for (int i = 0; i < KEYS; i++) {
                 numbers[i] = 0;
             }
             for (int i = 0; i < start.length; i++) {
                 doNext(start.at(i));
             }
-            history.fixed = start.fixed;
             for (int place = 1; place <= history.length; place++) {
                 reply(place);
             }
@@ -766,9 +752,8 @@ public final class SpecOrder {
             }
         }
 
-        private void sendOrder(int place) {
-            int request = history.at(place - 1);
-            post.sendToAll(id, new Letter(ORDER, view, request, place, history.digest(place), 0, null));
+        private Letter orderOf(int place) {
+            return new Letter(ORDER, view, history.at(place - 1), place, history.digest(place), 0, null);
         }
 
         private void reply(int place) {
