@@ -1,5 +1,12 @@
+import java.util.Arrays;
+import java.util.NoSuchElementException;
+
 /** Counts the answers that are not as due; end() ends the program with exit code 1 if there was one. */
 final class Check {
+    static final Class<IllegalArgumentException> ARGUMENT = IllegalArgumentException.class;
+    static final Class<IllegalStateException> STATE = IllegalStateException.class;
+    static final Class<NoSuchElementException> ELEMENT = NoSuchElementException.class;
+
     private int wrong = 0;
     private String about = "";
 
@@ -20,8 +27,8 @@ final class Check {
     }
 
     void dueAll(String call, int[] got, int... want) {
-        if (!java.util.Arrays.equals(got, want)) {
-            fail(call + " answered " + java.util.Arrays.toString(got) + ", due is " + java.util.Arrays.toString(want));
+        if (!Arrays.equals(got, want)) {
+            fail(call + " answered " + Arrays.toString(got) + ", due is " + Arrays.toString(want));
         }
     }
 

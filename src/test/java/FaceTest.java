@@ -4,7 +4,6 @@ import java.lang.reflect.Field;
 import java.lang.reflect.Method;
 import java.lang.reflect.Modifier;
 import java.util.Arrays;
-import java.util.NoSuchElementException;
 import java.util.TreeSet;
 
 /** The class's face is the document's and no more, and no argument brings another exception than it names. */
@@ -25,11 +24,15 @@ public final class FaceTest {
     public static void main(String[] args) {
         CHECK.about("the face");
         face();
-        CHECK.about("odd arguments");
         for (int faulty = -1; faulty < 4; faulty++) {
-            oddArguments(fresh(faulty, 0), 0);
-            oddArguments(fresh(faulty, 2), 2);
-            oddArguments(fresh(faulty, 12), 12);
+            for (int requests : new int[] {0, 2, 12}) {
+                for (int odd : ODD) {
+                    CHECK.about("faulty " + faulty + ", " + requests + " requests, " + odd);
+                    oddNumber(fresh(faulty, requests), requests, odd);
+                    oddReplicaAndRequest(fresh(faulty, requests), faulty, requests, odd);
+                    oddOp(fresh(faulty, requests), requests, odd);
+                }
+            }
         }
         CHECK.end();
     }
@@ -93,28 +96,46 @@ public final class FaceTest {
         return x;
     }
 
-    private static void oddArguments(SpecOrder x, int requests) {
-        for (int a : ODD) {
-            boolean replica = a >= 0 && a <= 3;
-            boolean request = a >= 0 && a < requests;
-            same("patience " + a, replica ? null : IllegalArgumentException.class, () -> x.patience(a));
-            same("retry " + a, request ? null : NoSuchElementException.class, () -> x.retry(a));
-            same("deliver " + a, null, () -> x.deliver(a));
-            same("lose " + a, null, () -> x.lose(a));
-            for (int b : ODD) {
-                boolean ofReplica = b >= 0 && b <= 6 || b >= 10 && b <= 21 || b >= 30 && b <= 33;
-                boolean message = a >= 0 && a < x.messages();
-                same("replica", replica && ofReplica ? null : IllegalArgumentException.class, () -> x.replica(a, b));
-                same("message", message && b >= 0 && b <= 6 ? null : NoSuchElementException.class,
-                        () -> x.message(a, b));
-                same("request", request && b >= 0 && b <= 4 ? null : NoSuchElementException.class,
-                        () -> x.request(a, b));
-            }
+    private static boolean isReplica(int number) {
+        return number >= 0 && number <= 3;
+    }
+
+    private static void oddNumber(SpecOrder x, int requests, int a) {
+        boolean request = a >= 0 && a < requests;
+        boolean message = a >= 0 && a < x.messages();
+        for (int b : ODD) {
+            boolean ofReplica = b >= 0 && b <= 6 || b >= 10 && b <= 21 || b >= 30 && b <= 33;
+            same("replica", isReplica(a) && ofReplica ? null : Check.ARGUMENT, () -> x.replica(a, b));
+            same("message", message && b >= 0 && b <= 6 ? null : Check.ELEMENT, () -> x.message(a, b));
+            same("request", request && b >= 0 && b <= 4 ? null : Check.ELEMENT, () -> x.request(a, b));
         }
-        for (int a : ODD) {
-            same("flood " + a, a >= 0 ? null : IllegalArgumentException.class, () -> x.flood(a));
-        }
+        same("patience", isReplica(a) ? null : Check.ARGUMENT, () -> x.patience(a));
+        same("retry", request ? null : Check.ELEMENT, () -> x.retry(a));
+        same("deliver", null, () -> x.deliver(a));
+        same("lose", null, () -> x.lose(a));
+        same("flood", a >= 0 ? null : Check.ARGUMENT, () -> x.flood(a));
+        x.flood(0);
         CHECK.due("all is delivered or lost", x.flood(0), 0);
+    }
+
+    private static void oddReplicaAndRequest(SpecOrder x, int faulty, int requests, int a) {
+        for (int b : ODD) {
+            boolean right = isReplica(a) && a != faulty && b >= 0 && b < requests;
+            same("lie, request " + b, right ? null : Check.ARGUMENT, () -> x.lie(a, b));
+            same("echo, request " + b, right ? null : Check.ARGUMENT, () -> x.echo(a, b));
+        }
+    }
+
+    private static void oddOp(SpecOrder x, int requests, int a) {
+        int left = 12 - requests;
+        for (int key : ODD) {
+            boolean right = a >= 0 && a <= 2 && key >= 0 && key <= 3;
+            // which of both exceptions comes where both are due is left open
+            if (right || left > 0) {
+                same("issue, key " + key, !right ? Check.ARGUMENT : left > 0 ? null : Check.STATE, () -> x.issue(a, key, 0));
+            }
+            left -= right && left > 0 ? 1 : 0;
+        }
     }
 
     private static void same(String call, Class<? extends RuntimeException> want, Runnable run) {

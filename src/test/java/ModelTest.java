@@ -1,36 +1,44 @@
 import java.util.ArrayList;
+import java.util.Collections;
 import java.util.List;
 import java.util.Random;
 
 /**
- * Long mixed runs, always the same ones, on SpecOrder and on Model side by side: each answer, and after each
- * call all that can be asked of the replicas, the requests and the newest messages, has to be the same. The
- * invariants that the document tells in passing are looked at, too.
+ * Long mixed runs, always the same ones, on SpecOrder and on Model: each answer has to be the same, and every few
+ * calls all that can be asked of the replicas, the requests and the newest messages. That is asked of a new object
+ * that has made the same calls, since an object is good for 512 calls, and asking is one.
  */
 public final class ModelTest {
     private static final int RUNS = 3000;
     private static final int CALLS = 160;
-    private static final int MOST_CALLS = 500;
+    private static final int MOST_CALLS = 512;
+    private static final int STRIDE = 10;
     /** How often each rare thing of count() has to be seen in all runs. */
     private static final int[] LEAST = {1000, 100, 1000, 1000, 100, 10};
     private static final int KINDS_OF_CALLS = 8;
 
     private final Check check;
     private final Random dice;
-    private final SpecOrder real;
     private final Model model;
     private final int mostRequests;
+    private final List<Call> calls = new ArrayList<>();
     /** How far each kind of message is favoured when one is chosen. */
     private final int[] favour = new int[8];
     /** How far each kind of call is favoured, so that some runs are full of hate and some of peace. */
     private final int[] callFavour = new int[KINDS_OF_CALLS];
 
+    /** A call with its arguments, and what the model answered. */
+    private record Call(int kind, int a, int b, int c, int answer) {
+    }
+
+    /** A question about the state, and what the model answered. */
+    private record Fact(String about, int number, int what, int answer) {
+    }
+
     private ModelTest(Check check, int seed) {
         this.check = check;
         dice = new Random(seed);
-        int faulty = dice.nextInt(6) - 1;
-        real = new SpecOrder(faulty);
-        model = new Model(faulty);
+        model = new Model(dice.nextInt(6) - 1);
         mostRequests = dice.nextInt(3) == 0 ? 12 : 1 + dice.nextInt(6);
         for (int i = 0; i < 8; i++) {
             favour[i] = dice.nextInt(5);
@@ -59,15 +67,15 @@ public final class ModelTest {
     }
 
     private void run(int seed) {
-        int calls = seed % 10 == 0 ? MOST_CALLS : CALLS;
-        for (int call = 0; call < calls && check.wrong() == 0; call++) {
-            check.about("seed " + seed + ", call " + call);
-            step();
-            compareStates(Math.max(0, model.sent.size() - 40));
+        int length = seed % 10 == 0 ? MOST_CALLS : CALLS;
+        for (int n = 1; n <= length && check.wrong() == 0; n++) {
+            check.about("seed " + seed + ", after " + n + " calls");
+            calls.add(next());
+            if (n % STRIDE == 0 || n == length) {
+                replay();
+            }
         }
-        check.about("seed " + seed + ", at the end");
         if (check.wrong() == 0) {
-            compareStates(0);
             invariants();
         }
     }
@@ -85,47 +93,71 @@ public final class ModelTest {
         seen[5] += model.sent.size() == 600 ? 1 : 0;
     }
 
-    private int chooseCall() {
+    private int chooseKind() {
         int all = 0;
         for (int f : callFavour) {
             all += f;
         }
         int roll = dice.nextInt(all);
-        int call = 0;
-        while (roll >= callFavour[call]) {
-            roll -= callFavour[call++];
+        int kind = 0;
+        while (roll >= callFavour[kind]) {
+            roll -= callFavour[kind++];
         }
-        return call;
+        return kind;
     }
 
-    private void step() {
+    /** A call that makes sense at least in part, made on the model. */
+    private Call next() {
         int n = model.requests.size();
-        int call = n == 0 ? 0 : chooseCall();
-        int r = dice.nextInt(4);
-        int q = n == 0 ? 0 : dice.nextInt(n);
-        if (call == 0 && n < mostRequests) {
-            int op = dice.nextInt(3);
-            int key = dice.nextInt(2);
-            int amount = dice.nextInt(5) == 0 ? Integer.MAX_VALUE - dice.nextInt(2) : dice.nextInt(9) - 3;
-            check.due("issue", real.issue(op, key, amount), model.issue(op, key, amount));
-        } else if (call == 1) {
-            check.due("retry " + q, real.retry(q), model.retry(q));
-        } else if (call == 2) {
-            int m = chooseMessage();
-            check.due("deliver " + m, real.deliver(m), model.deliver(m));
-        } else if (call == 3) {
-            int m = chooseMessage();
-            check.due("lose " + m, real.lose(m), model.lose(m));
-        } else if (call == 4) {
-            int m = dice.nextInt(model.sent.size() + 1);
-            check.due("flood " + m, real.flood(m), model.flood(m));
-        } else if (call == 5) {
-            check.due("patience " + r, real.patience(r), model.patience(r));
-        } else if (call == 6 && r != model.faulty) {
-            check.due("lie " + r + " " + q, real.lie(r, q), model.lie(r, q));
-        } else if (call == 7 && r != model.faulty) {
-            check.due("echo " + r + " " + q, real.echo(r, q), model.echo(r, q));
+        int kind = n == 0 ? 0 : chooseKind();
+        int a = dice.nextInt(4);
+        int b = n == 0 ? 0 : dice.nextInt(n);
+        int c = 0;
+        if (kind == 0 && n == mostRequests || kind >= 6 && a == model.faulty) {
+            kind = 2;
         }
+        if (kind == 0) {
+            a = dice.nextInt(3);
+            b = dice.nextInt(2);
+            c = dice.nextInt(5) == 0 ? Integer.MAX_VALUE - dice.nextInt(2) : dice.nextInt(9) - 3;
+        } else if (kind == 1) {
+            a = b;
+        } else if (kind == 2 || kind == 3) {
+            a = chooseMessage();
+        } else if (kind == 4) {
+            a = dice.nextInt(model.sent.size() + 1);
+        }
+        return new Call(kind, a, b, c, onModel(kind, a, b, c));
+    }
+
+    private int onModel(int kind, int a, int b, int c) {
+        return switch (kind) {
+            case 0 -> model.issue(a, b, c);
+            case 1 -> model.retry(a);
+            case 2 -> bit(model.deliver(a));
+            case 3 -> bit(model.lose(a));
+            case 4 -> model.flood(a);
+            case 5 -> bit(model.patience(a));
+            case 6 -> bit(model.lie(a, b));
+            default -> bit(model.echo(a, b));
+        };
+    }
+
+    private static int onReal(SpecOrder real, Call call) {
+        return switch (call.kind) {
+            case 0 -> real.issue(call.a, call.b, call.c);
+            case 1 -> real.retry(call.a);
+            case 2 -> bit(real.deliver(call.a));
+            case 3 -> bit(real.lose(call.a));
+            case 4 -> real.flood(call.a);
+            case 5 -> bit(real.patience(call.a));
+            case 6 -> bit(real.lie(call.a, call.b));
+            default -> bit(real.echo(call.a, call.b));
+        };
+    }
+
+    private static int bit(boolean answer) {
+        return answer ? 1 : 0;
     }
 
     private int chooseMessage() {
@@ -139,30 +171,61 @@ public final class ModelTest {
         return choice.isEmpty() ? dice.nextInt(model.sent.size() + 3) - 1 : choice.get(dice.nextInt(choice.size()));
     }
 
-    private void compareStates(int firstMessage) {
-        check.due("messages()", real.messages(), model.sent.size());
-        check.due("view()", real.view(), model.clientView);
+    /** A new object makes all calls so far, and is asked then as much as its 512 calls leave room for. */
+    private void replay() {
+        SpecOrder real = new SpecOrder(model.faulty);
+        for (Call call : calls) {
+            compare(call, onReal(real, call), call.answer);
+        }
+        List<Fact> facts = facts();
+        for (int i = 0; i < facts.size() && i < MOST_CALLS - calls.size() && check.wrong() == 0; i++) {
+            Fact fact = facts.get(i);
+            compare(fact, answer(real, fact), fact.answer);
+        }
+    }
+
+    /** The text is made only when it is wanted, since there are millions of calls. */
+    private void compare(Record call, int got, int want) {
+        if (got != want) {
+            check.due(call.toString(), got, want);
+        }
+    }
+
+    private List<Fact> facts() {
+        List<Fact> facts = new ArrayList<>();
+        facts.add(new Fact("messages", 0, 0, model.sent.size()));
+        facts.add(new Fact("view", 0, 0, model.clientView));
         for (int i = 0; i < 4; i++) {
-            int[] facts = new int[23];
-            for (int k = 0; k < 23; k++) {
-                facts[k] = real.replica(i, k < 7 ? k : k < 19 ? k + 3 : k + 11);
+            int[] of = model.replicaFacts(i);
+            for (int k = 0; k < of.length; k++) {
+                facts.add(new Fact("replica", i, k < 7 ? k : k < 19 ? k + 3 : k + 11, of[k]));
             }
-            check.dueAll("replica " + i, facts, model.replicaFacts(i));
         }
-        for (int q = 0; q < model.requests.size(); q++) {
-            int[] facts = new int[5];
-            for (int k = 0; k < 5; k++) {
-                facts[k] = real.request(q, k);
-            }
-            check.dueAll("request " + q, facts, model.requestFacts(q));
+        for (int i = 0; i < model.requests.size(); i++) {
+            addAll(facts, "request", i, model.requestFacts(i));
         }
-        for (int m = firstMessage; m < model.sent.size(); m++) {
-            int[] facts = new int[7];
-            for (int k = 0; k < 7; k++) {
-                facts[k] = real.message(m, k);
-            }
-            check.dueAll("message " + m, facts, model.messageFacts(m));
+        // where there is room for some only, it is not always for the same ones
+        Collections.shuffle(facts, dice);
+        for (int i = model.sent.size() - 1; i >= 0 && facts.size() < MOST_CALLS; i--) {
+            addAll(facts, "message", i, model.messageFacts(i));
         }
+        return facts;
+    }
+
+    private static void addAll(List<Fact> facts, String about, int number, int[] answers) {
+        for (int what = 0; what < answers.length; what++) {
+            facts.add(new Fact(about, number, what, answers[what]));
+        }
+    }
+
+    private static int answer(SpecOrder real, Fact fact) {
+        return switch (fact.about) {
+            case "messages" -> real.messages();
+            case "view" -> real.view();
+            case "replica" -> real.replica(fact.number, fact.what);
+            case "request" -> real.request(fact.number, fact.what);
+            default -> real.message(fact.number, fact.what);
+        };
     }
 
     private void invariants() {
