@@ -16,7 +16,8 @@ public final class FaceTest {
         "message(int,int)int throws NoSuchElementException", "messages()int",
         "patience(int)boolean throws IllegalArgumentException",
         "replica(int,int)int throws IllegalArgumentException",
-        "request(int,int)int throws NoSuchElementException", "retry(int)int throws NoSuchElementException", "view()int"};
+        "request(int,int)int throws NoSuchElementException", "retry(int)int throws NoSuchElementException",
+        "view()int"};
     private static final int[] ODD = {Integer.MIN_VALUE, -601, -2, -1, 0, 1, 2, 3, 4, 5, 6, 7, 9, 10, 11, 12, 13, 21,
         22, 29, 30, 33, 34, 64, 599, 600, 601, Integer.MAX_VALUE};
     private static final Check CHECK = new Check();
@@ -132,7 +133,8 @@ public final class FaceTest {
             boolean right = a >= 0 && a <= 2 && key >= 0 && key <= 3;
             // which of both exceptions comes where both are due is left open
             if (right || left > 0) {
-                same("issue, key " + key, !right ? Check.ARGUMENT : left > 0 ? null : Check.STATE, () -> x.issue(a, key, 0));
+                Class<? extends RuntimeException> due = !right ? Check.ARGUMENT : left > 0 ? null : Check.STATE;
+                same("issue, key " + key, due, () -> x.issue(a, key, 0));
             }
             left -= right && left > 0 ? 1 : 0;
         }

@@ -13,10 +13,11 @@ public final class TermsChangeTest {
         part.test("and has kept those of three or four for it, it makes the NEW one", TermsChangeTest::threeOrFour);
         part.test("the row begins with as many of the row of the one with the greatest FIXED",
                 TermsChangeTest::theGreatestFixed);
+        part.test("the one with the greatest FIXED", TermsChangeTest::theGreatestFixedOfAnySender);
         part.test("(the lowest sender of several)", TermsChangeTest::theLowestSenderOfSeveral);
         part.test("as that is", TermsChangeTest::asManyAsThatIs);
-        part.test("then, again and again: if two of their rows that begin with what there is so far go on with the same "
-                + "request", TermsChangeTest::ifTwoGoOnWithTheSame);
+        part.test("then, again and again: if two of their rows that begin with what there is so far go on with the "
+                + "same request", TermsChangeTest::ifTwoGoOnWithTheSame);
         part.test("again and again", TermsChangeTest::againAndAgainUpToTwelve);
         part.test("that begin with what there is so far", TermsChangeTest::thatBeginWithWhatThereIsSoFar);
         part.test("(that of the lowest sender, if there are two such), that comes next",
@@ -149,8 +150,35 @@ public final class TermsChangeTest {
         CHECK.dueAll("FIXED", new int[] {x.replica(1, 2), x.replica(2, 2), x.replica(3, 2)}, 0, 8, 0);
         changeOf123(x);
         for (int i = 1; i < 4; i++) {
-            CHECK.dueAll("the row of 2, though no one else has it, now in " + i, Scene.row(x, i), 5, 1, 2, 0, 4, 3, 6, 7);
+            CHECK.dueAll("the row of 2 alone, now in " + i, Scene.row(x, i), 5, 1, 2, 0, 4, 3, 6, 7);
             CHECK.due("FIXED of " + i, x.replica(i, 2), 8);
+        }
+    }
+
+    private static void theGreatestFixedOfAnySender() {
+        for (int noted = 0; noted < 3; noted++) {
+            // all four have request 0, one alone has noted its proof, and the change is made without 3
+            SpecOrder x = Scene.issued(-1, 2);
+            x.lose(1);
+            for (int i : new int[] {0, 2, 3, 4, 5, 6, 7}) {
+                x.deliver(i);
+            }
+            x.lose(8);
+            int proof = x.messages();
+            x.retry(0);
+            x.deliver(proof + noted);
+            CHECK.due("FIXED of " + noted, x.replica(noted, 2), 1);
+            Scene.want(x, 1);
+            int first = x.messages();
+            x.patience(1);
+            x.patience(2);
+            for (int i : new int[] {0, 1, 3, 4, 6, 7, 8, 9, 10}) {
+                x.deliver(first + i);
+            }
+            for (int i = 0; i < 4; i++) {
+                CHECK.due("view of " + i, x.replica(i, 0), 1);
+                CHECK.due("that of " + noted + ", now in " + i, x.replica(i, 2), 1);
+            }
         }
     }
 

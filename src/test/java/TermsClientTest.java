@@ -10,8 +10,8 @@ public final class TermsClientTest {
         part.test("and the latest ACK from each", TermsClientTest::theLatestAckFromEach);
         part.test("Its VIEW is the greatest of any REPLY that came", TermsClientTest::theGreatestOfAnyReply);
         part.test("(0 at first)", TermsClientTest::zeroAtFirst);
-        String equal = "An open request is DONE, with the result and place, when REPLIES from all four are kept for it that "
-                + "are equal (in all)";
+        String equal = "An open request is DONE, with the result and place, when REPLIES from all four are kept for it "
+                + "that are equal (in all)";
         part.test(equal, TermsClientTest::equalRepliesFromAllFour);
         part.test(equal, TermsClientTest::notWithAnotherPlace);
         part.test(equal, TermsClientTest::notWithAnotherDigest);
@@ -115,12 +115,8 @@ public final class TermsClientTest {
         }
         CHECK.dueAll("1 replies in view 1", Scene.lastMessage(x), 2, 1, 4, 1, 0, 1, 0);
         CHECK.due("it has not come", x.view(), 0);
-        int ask = x.messages();
-        x.retry(1);
-        x.deliver(ask - 1);
+        x.deliver(x.messages() - 1);
         CHECK.due("it has come, for a request that is done", x.view(), 1);
-        // 3 is in view 0 and replies so to a question that it gets
-        CHECK.due("view of 3", x.replica(3, 0), 0);
         aReplyOfALowerView();
     }
 
@@ -190,7 +186,6 @@ public final class TermsClientTest {
             Scene.lies(x, i, 0);
         }
         x.flood(2);
-        x.issue(Scene.READ, 0, 0);
         Scene.want(x, 1);
         int first = x.messages();
         x.patience(1);

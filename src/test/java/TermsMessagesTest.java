@@ -23,8 +23,8 @@ public final class TermsMessagesTest {
         part.test("3 PROOF and 4 ACK: view, place, digest", TermsMessagesTest::proofAndAck);
         part.test("5 HATE: view", TermsMessagesTest::hate);
         part.test("6 CHANGE and 7 NEW: view, a row, FIXED", TermsMessagesTest::changeAndNew);
-        part.test("To REPLY for a request in its row, a replica sends the client its view, its place there, the digest up "
-                + "to it, its result", TermsMessagesTest::toReplyForARequestInItsRow);
+        part.test("To REPLY for a request in its row, a replica sends the client its view, its place there, the "
+                + "digest up to it, its result", TermsMessagesTest::toReplyForARequestInItsRow);
         part.end();
         CHECK.end();
     }
@@ -188,8 +188,8 @@ public final class TermsMessagesTest {
         for (int i = 0; i < messages; i++) {
             int from = x.message(i, 1);
             int to = x.message(i, 2);
-            CHECK.due("message " + i + " goes to another one", from != to && from >= 0 && from <= 4 && to >= 0 && to <= 4,
-                    true);
+            CHECK.due("message " + i + " goes to another one", from != to, true);
+            CHECK.due("both are among 0 .. 4", from >= 0 && from <= 4 && to >= 0 && to <= 4, true);
         }
     }
 

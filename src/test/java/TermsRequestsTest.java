@@ -53,7 +53,8 @@ public final class TermsRequestsTest {
     }
 
     private static void fromFourNumbers0On() {
-        done(new int[][] {{2, 0, 9, 0}, {2, 1, 9, 0}, {2, 2, 9, 0}, {2, 3, 9, 0}, {0, 0, 9, 0}, {1, 1, 9, 9}, {2, 2, 0, 0}});
+        done(new int[][] {{2, 0, 9, 0}, {2, 1, 9, 0}, {2, 2, 9, 0}, {2, 3, 9, 0}, {0, 0, 9, 0}, {1, 1, 9, 9},
+            {2, 2, 0, 0}});
     }
 
     private static void inSomeOrder() {
@@ -82,8 +83,8 @@ public final class TermsRequestsTest {
     }
 
     private static void intsThatWrap() {
-        SpecOrder x = done(new int[][] {{0, 1, MAX, 0}, {1, 1, 1, MIN}, {1, 1, -1, MAX}, {1, 1, MAX, -2}, {0, 1, MIN, -2},
-            {1, 1, MIN, 0}, {1, 1, MIN, MIN}, {1, 1, -1, MAX}, {2, 1, 1, MAX}});
+        SpecOrder x = done(new int[][] {{0, 1, MAX, 0}, {1, 1, 1, MIN}, {1, 1, -1, MAX}, {1, 1, MAX, -2},
+            {0, 1, MIN, -2}, {1, 1, MIN, 0}, {1, 1, MIN, MIN}, {1, 1, -1, MAX}, {2, 1, 1, MAX}});
         CHECK.dueAll("numbers", Scene.numbers(x, 3), 0, MAX, 0, 0);
     }
 

@@ -16,7 +16,8 @@ public final class WhatItIsTest {
                 WhatItIsTest::nothingDoneIsLost);
         part.test("(as long as unlike rows have unlike digests; those of up to six requests have)",
                 WhatItIsTest::rowsOfUpToSixHaveUnlikeDigests);
-        String calls = "An object is used for at most 512 calls after it has been made; what later calls answer is free";
+        String calls = "An object is used for at most 512 calls after it has been made; "
+                + "what later calls answer is free";
         part.test(calls, WhatItIsTest::aRunOf512Calls);
         part.test(calls, WhatItIsTest::aRunOf512CallsWithAllMessagesSent);
         part.test(calls, WhatItIsTest::aRunOf512CallsThroughManyViews);
