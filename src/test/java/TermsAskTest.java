@@ -6,6 +6,7 @@ public final class TermsAskTest {
         Part takes = Part.terms(CHECK, "A REPLICA takes");
         takes.test("A REPLICA takes (what is not said is nothing", TermsAskTest::whatIsNotSaidIsNothing);
         takes.test("a CHANGING one takes HATE, CHANGE and NEW alone)", TermsAskTest::aChangingOneTakesNoOther);
+        takes.test("a CHANGING one takes HATE, CHANGE and NEW alone)", TermsAskTest::noOtherOfItsOwnViewEither);
         takes.test("a CHANGING one takes HATE, CHANGE and NEW alone)", TermsAskTest::aChangingOneTakesThese);
         takes.end();
         Part ask = Part.terms(CHECK, "ASK: if");
@@ -78,6 +79,38 @@ public final class TermsAskTest {
         int messages = x.messages();
         CHECK.due("ASK for what is in its row", x.deliver(3), true);
         CHECK.due("no reply", x.messages(), messages);
+    }
+
+    private static void noOtherOfItsOwnViewEither() {
+        // all four have request 0, and go to view 1; 0, 1 and 2 turn to it, and the NEW to 3 is under way
+        SpecOrder x = Scene.issued(-1, 2);
+        x.lose(1);
+        for (int i : new int[] {0, 2, 3, 4, 5, 6, 7}) {
+            x.deliver(i);
+        }
+        x.lose(8);
+        Scene.want(x, 1);
+        int first = x.messages();
+        x.patience(1);
+        x.patience(2);
+        for (int i = 0; i < 11; i++) {
+            x.deliver(first + i);
+        }
+        Scene.pass(x, Scene.REPLY, 1, 4);
+        Scene.pass(x, Scene.REPLY, 0, 4);
+        Scene.pass(x, Scene.REPLY, 2, 4);
+        CHECK.dueAll("3 is changing in view 1", Scene.replica(x, 3), 1, 1, 0, 1, 2, 0, 218);
+        CHECK.due("three replies of view 1", x.retry(0), 2);
+        int ask = x.messages();
+        CHECK.dueAll("a PROOF of view 1 to 3", Scene.message(x, ask - 1), 3, 4, 3, 1, -1, 1, 0);
+        x.retry(1);
+        x.deliver(ask + 1);
+        int messages = x.messages();
+        CHECK.dueAll("an ORDER of view 1 to 3", Scene.message(x, ask + 6), 1, 1, 3, 1, 1, 2, 0);
+        x.deliver(ask - 1);
+        x.deliver(ask + 6);
+        CHECK.dueAll("3 is as it was", Scene.replica(x, 3), 1, 1, 0, 1, 2, 0, 218);
+        CHECK.due("no ack, and no reply", x.messages(), messages);
     }
 
     private static void aChangingOneTakesThese() {

@@ -9,6 +9,7 @@ public final class TermsChangeTest {
         part.test(kept, TermsChangeTest::ofItsOwnView);
         part.test(kept, TermsChangeTest::ofAViewBelowItsOwn);
         part.test("in place of one from the same sender", TermsChangeTest::inPlaceOfOneFromTheSameSender);
+        part.test("in place of one from the same sender", TermsChangeTest::thoughThatWasOfAGreaterView);
         part.test("If it is CHANGING in that view", TermsChangeTest::ifItIsChangingInThatView);
         part.test("and has kept those of three or four for it, it makes the NEW one", TermsChangeTest::threeOrFour);
         part.test("the row begins with as many of the row of the one with the greatest FIXED",
@@ -103,6 +104,28 @@ public final class TermsChangeTest {
         x.deliver(first + 1);
         CHECK.dueAll("1 has those of 3 and of its own for view 1", Scene.replica(x, 1), 1, 0, 0, 1, 1, 0, 7);
         CHECK.due("so there is no NEW", x.messages(), messages);
+    }
+
+    private static void thoughThatWasOfAGreaterView() {
+        SpecOrder x = Scene.wanting(0, 1);
+        int first = x.messages();
+        for (int view = 0; view < 5; view++) {
+            int hates = x.messages();
+            x.patience(2);
+            x.patience(3);
+            x.deliver(hates + 2);
+            x.deliver(hates + 5);
+        }
+        int last = x.messages() - 1;
+        CHECK.dueAll("a CHANGE of 2 for view 5", Scene.message(x, last), 6, 2, 1, 5, -1, 0, 0);
+        x.deliver(last);
+        x.deliver(last - 1);
+        CHECK.dueAll("a late one of 3 for view 1", Scene.message(x, first + 6), 6, 3, 1, 1, -1, 0, 0);
+        x.deliver(first + 6);
+        x.deliver(first + 7);
+        x.deliver(first + 1);
+        x.deliver(first + 4);
+        CHECK.dueAll("1 has three for view 1", Scene.replica(x, 1), 1, 0, 0, 0, 1, 0, 7);
     }
 
     private static void ifItIsChangingInThatView() {

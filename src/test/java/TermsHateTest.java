@@ -10,6 +10,7 @@ public final class TermsHateTest {
         hate.test("If two are: it CHANGES", TermsHateTest::ifTwoAre);
         hate.test("its view grows by 1, no one is hated, it is changing", TermsHateTest::itsViewGrowsBy1);
         hate.test("and sends the new view's primary a CHANGE with its row and FIXED", TermsHateTest::itSendsAChange);
+        hate.test("with its row and FIXED", TermsHateTest::asTheyWereWhenItWasSent);
         hate.test("the new view's primary", TermsHateTest::thePrimaryOfView4Is0);
         hate.test("(which that takes at once when it is that itself)", TermsHateTest::takesItAtOnce);
         hate.end();
@@ -107,6 +108,40 @@ public final class TermsHateTest {
         CHECK.due("messages", x.messages(), first + 8);
         x.flood(first);
         CHECK.dueAll("3 has got row and FIXED", Scene.replica(x, 3), 1, 1, 1, 0, 2, 0, 218);
+    }
+
+    private static void asTheyWereWhenItWasSent() {
+        // 0 and 3 have request 0; all four change to view 1, and the CHANGEs to 1 are under way
+        SpecOrder x = Scene.issued(-1, 2);
+        x.deliver(0);
+        x.deliver(4);
+        Scene.loseAll(x, 1);
+        Scene.want(x, 1);
+        int first = x.messages();
+        x.patience(2);
+        x.patience(3);
+        for (int i = 0; i < 6; i++) {
+            x.deliver(first + i);
+        }
+        // meanwhile 0, 2 and 3 go on to view 2, where 2 orders request 1, too
+        int second = x.messages();
+        x.patience(2);
+        x.patience(3);
+        for (int i : new int[] {0, 2, 3, 5, 6, 7}) {
+            x.deliver(second + i);
+        }
+        CHECK.dueAll("2 has turned to view 2", Scene.replica(x, 2), 2, 1, 0, 0, 2, 0, 218);
+        Scene.pass(x, Scene.NEW, 2, 0);
+        Scene.pass(x, Scene.NEW, 2, 3);
+        int ask = x.messages();
+        x.retry(1);
+        x.deliver(ask + 2);
+        Scene.pass(x, Scene.ORDER, 2, 0);
+        Scene.pass(x, Scene.ORDER, 2, 3);
+        CHECK.dueAll("row of 3", Scene.row(x, 3), 0, 1);
+        CHECK.due("CHANGE of 0 for view 1", Scene.pass(x, Scene.CHANGE, 0, 1), true);
+        CHECK.due("CHANGE of 3 for view 1", Scene.pass(x, Scene.CHANGE, 3, 1), true);
+        CHECK.dueAll("1 knows of their rows in view 0 alone", Scene.replica(x, 1), 1, 1, 0, 0, 2, 0, 218);
     }
 
     private static void thePrimaryOfView4Is0() {

@@ -10,6 +10,7 @@ public final class TermsNewTest {
         part.test("it TURNS to it", TermsNewTest::notToOneBelowItsOwn);
         part.test("To TURN is: view, row and FIXED are those", TermsNewTest::viewRowAndFixedAreThose);
         part.test("row and FIXED are those", TermsNewTest::theRowMayShrinkToNothing);
+        part.test("row and FIXED are those", TermsNewTest::asTheyWereWhenItWasSent);
         part.test("it is not changing, no one is hated", TermsNewTest::notChangingAndNoOneIsHated);
         part.test("then it replies for each request in the row, in order (the new primary, too)",
                 TermsNewTest::itRepliesForEachInOrder);
@@ -130,6 +131,21 @@ public final class TermsNewTest {
         CHECK.dueAll("its numbers", Scene.numbers(x, 0), 0, 0, 0, 0);
         CHECK.due("its first place", x.replica(0, 10), SpecOrder.NONE);
         CHECK.due("there is nothing to reply for", x.messages(), messages);
+    }
+
+    private static void asTheyWereWhenItWasSent() {
+        SpecOrder x = Scene.wanting(-1, 1);
+        int first = changeWithout3(x);
+        int ask = x.messages();
+        x.retry(0);
+        x.deliver(ask + 1);
+        CHECK.dueAll("1 has done one since", Scene.row(x, 1), 0);
+        int messages = x.messages();
+        x.deliver(first + 10);
+        CHECK.dueAll("3 turns to an empty row", Scene.replica(x, 3), 1, 0, 0, 0, 1, 0, 7);
+        CHECK.due("and has nothing to reply for", x.messages(), messages);
+        x.deliver(ask + 6);
+        CHECK.dueAll("then it takes the order", Scene.row(x, 3), 0);
     }
 
     private static void notChangingAndNoOneIsHated() {
