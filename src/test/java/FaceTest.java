@@ -4,7 +4,10 @@ import java.lang.reflect.Field;
 import java.lang.reflect.Method;
 import java.lang.reflect.Modifier;
 import java.util.Arrays;
+import java.util.List;
 import java.util.TreeSet;
+import java.util.regex.Matcher;
+import java.util.regex.Pattern;
 
 /** The class's face is the document's and no more, and no argument brings another exception than it names. */
 public final class FaceTest {
@@ -18,12 +21,14 @@ public final class FaceTest {
         "replica(int,int)int throws IllegalArgumentException",
         "request(int,int)int throws NoSuchElementException", "retry(int)int throws NoSuchElementException",
         "view()int"};
+    private static final Pattern DECLARED = Pattern.compile("    public (\\w+) (\\w+\\(.*\\))( throws .*)?;");
     private static final int[] ODD = {Integer.MIN_VALUE, -601, -2, -1, 0, 1, 2, 3, 4, 5, 6, 7, 9, 10, 11, 12, 13, 21,
         22, 29, 30, 33, 34, 64, 599, 600, 601, Integer.MAX_VALUE};
     private static final Check CHECK = new Check();
 
     public static void main(String[] args) {
         CHECK.about("the face");
+        documentsFace();
         face();
         for (int faulty = -1; faulty < 4; faulty++) {
             for (int requests : new int[] {0, 2, 12}) {
@@ -36,6 +41,30 @@ public final class FaceTest {
             }
         }
         CHECK.end();
+    }
+
+    /** FACE is the document's: a call that is new or changed there shows here. */
+    private static void documentsFace() {
+        List<String> document = Part.lines();
+        if (document == null) {
+            return;
+        }
+        TreeSet<String> methods = new TreeSet<>();
+        for (String line : document) {
+            Matcher declared = DECLARED.matcher(line);
+            if (declared.matches()) {
+                String thrown = declared.group(3) == null ? "" : declared.group(3).replace(", ", ",");
+                String types = declared.group(2).replaceAll(" \\w+(?=[,)])", "").replace(", ", ",");
+                methods.add(types + declared.group(1) + thrown);
+            }
+        }
+        if (!methods.equals(new TreeSet<>(Arrays.asList(FACE)))) {
+            CHECK.fail("the document's methods are " + methods);
+        }
+        CHECK.due("its constant", document.contains("    public static final int NONE = -1;"), true);
+        CHECK.due("its constructor", document.contains("    public SpecOrder(int faulty);"), true);
+        long members = document.stream().filter(line -> line.startsWith("    public ")).count();
+        CHECK.due("its members", members, FACE.length + 2);
     }
 
     private static void face() {
@@ -64,6 +93,9 @@ public final class FaceTest {
         Constructor<?>[] constructors = SpecOrder.class.getDeclaredConstructors();
         CHECK.due("constructors", constructors.length, 1);
         CHECK.due("it is public", constructors[0].getModifiers(), Modifier.PUBLIC);
+        String taken = types(constructors[0]) + thrown(constructors[0]);
+        CHECK.due("it takes an int and throws nothing", taken.equals("(int)"), true);
+        CHECK.due("NONE", SpecOrder.NONE, -1);
         CHECK.due("the class is public and final", SpecOrder.class.getModifiers(), Modifier.PUBLIC | Modifier.FINAL);
     }
 

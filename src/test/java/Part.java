@@ -57,7 +57,8 @@ final class Part {
         return new Part(check, "Terms, " + firstWords, text);
     }
 
-    private static List<String> lines() {
+    /** The document; null where it is not at hand. */
+    static List<String> lines() {
         if (!Files.isReadable(DOCUMENT)) {
             System.out.println(DOCUMENT + " is not here: the words of the tests are not looked up");
             return null;
